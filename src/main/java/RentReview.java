@@ -311,11 +311,6 @@ public final class RentReview {
         return month >= 0 && month < MONTHS;
     }
 
-    /** Of an amount so many thousandths, cut. */
-    private static int thousandths(long amount, int howMany) {
-        return (int) (amount * howMany / 1000);
-    }
-
     /** What publish() answers where it is refused; 0 where it is not. */
     private int refusalOf(int month, int value) {
         if (!isMonth(month) || value < 1 || value > MOST_VALUE || book.values.has(month)) {
@@ -953,6 +948,10 @@ public final class RentReview {
             return month >= start && month < start + term;
         }
 
+        boolean isFree(int month) {
+            return month < start + free;
+        }
+
         int endKnownIn(int known) {
             return breakFrom <= known ? breakMonth : start + term;
         }
@@ -1030,33 +1029,35 @@ public final class RentReview {
         void goTo(Lease lease, int month) {
             int reviews = lease.reviews();
             for (int r = reviewsDone + 1; r <= reviews && lease.reviewMonth(r) <= month; r++) {
-                goThrough(lease, r);
+                reviewsDone = r;
+                wanted = wantedBy(lease, r);
+                least = thousandths(least, 1000 - lease.overall.floor);
+                most = Math.min(thousandths(most, 1000 + lease.overall.cap), MOST_RENT);
+                if (wanted != NONE) {
+                    rent = held(lease);
+                }
             }
         }
 
         /** DUE of a MONTH that is not ahead of the one asked for last. */
         int dueIn(Lease lease, int month) {
             goTo(lease, month);
-            return month < lease.start + lease.free ? 0 : rent;
+            return lease.isFree(month) ? 0 : rent;
         }
 
         /** DUE of all MONTHS from START on below one, together. */
         int dueBelow(Lease lease, int below) {
             int together = 0;
             for (int month = lease.start; month < below; month++) {
-                together += dueIn(lease, month);
+                goTo(lease, month);
+                together += lease.isFree(month) ? 0 : rent;
             }
             return together;
         }
 
-        private void goThrough(Lease lease, int r) {
-            reviewsDone = r;
-            wanted = wantedBy(lease, r);
-            least = thousandths(least, 1000 - lease.overall.floor);
-            most = Math.min(thousandths(most, 1000 + lease.overall.cap), MOST_RENT);
-            if (wanted != NONE) {
-                rent = held(lease);
-            }
+        /** Of an amount so many thousandths, cut. */
+        private static int thousandths(long amount, int howMany) {
+            return (int) (amount * howMany / 1000);
         }
 
         private int wantedBy(Lease lease, int r) {
