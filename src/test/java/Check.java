@@ -37,16 +37,22 @@ final class Check {
         return text.getBytes(StandardCharsets.ISO_8859_1);
     }
 
-    /** Feeds a text's bytes; the last twenty are filled up with zeros and cut by end(). */
+    /** Twenty bytes from a place on as the five numbers of feed(), filled up with zeros. */
+    static int[] numbers(byte[] bytes, int from) {
+        int[] numbers = new int[5];
+        for (int i = 0; i < 20 && from + i < bytes.length; i++) {
+            numbers[i / 4] |= (bytes[from + i] & 255) << (24 - 8 * (i % 4));
+        }
+        return numbers;
+    }
+
+    /** Feeds a text's bytes, and no others. */
     static void feed(RentReview desk, String text) {
         byte[] bytes = bytes(text);
         int before = desk.now(5);
         for (int from = 0; from < bytes.length; from += 20) {
-            int[] numbers = new int[5];
-            for (int i = 0; i < 20 && from + i < bytes.length; i++) {
-                numbers[i / 4] |= (bytes[from + i] & 255) << (24 - 8 * (i % 4));
-            }
-            desk.feed(numbers[0], numbers[1], numbers[2], numbers[3], numbers[4]);
+            int[] n = numbers(bytes, from);
+            desk.feed(n[0], n[1], n[2], n[3], n[4]);
         }
         desk.end(before + bytes.length);
     }

@@ -58,10 +58,7 @@ public final class RandomRunsTest {
     private void tell(String text) {
         byte[] bytes = Check.bytes(text);
         for (int from = 0; from < bytes.length; from += 20) {
-            int[] n = new int[5];
-            for (int i = 0; i < 20 && from + i < bytes.length; i++) {
-                n[i / 4] |= (bytes[from + i] & 255) << (24 - 8 * (i % 4));
-            }
+            int[] n = Check.numbers(bytes, from);
             same("feed", desk.feed(n[0], n[1], n[2], n[3], n[4]), plain.feed(n[0], n[1], n[2], n[3], n[4]));
         }
         same("end", desk.end(bytes.length), plain.end(bytes.length));
