@@ -42,11 +42,13 @@ public final class CallBoundariesTest {
         marketOfAnother();
         turnover();
         turnoverOfAnother();
+        toldInTheLastMonth();
         breaks();
         breaksTaken();
         pass();
         passTo239();
         undoKeeps10();
+        undoOfTheTenLatest();
         undoOfEach();
         undoNone();
         undoLeavesWhatIsNotAnAct();
@@ -406,6 +408,22 @@ public final class CallBoundariesTest {
         check.due("19: undone, told again", broken.undo() == 2 && broken.turnover(3, 29, 6), true);
     }
 
+    private static void toldInTheLastMonth() {
+        RentReview x = at(239, FIVE);
+        check.due("18: told in 239", x.market(2, 1, 5), 15);
+        check.due("18: it was told in 239", x.market(2, 1, 5), NONE);
+        check.due("19: told in 239", x.turnover(3, 10, 0), true);
+        check.due("19: it was told in 239", x.turnover(3, 10, 0), false);
+        check.due("17: told in 239", x.publish(239, 5), 3);
+        check.due("17: it has one, told in 239", x.publish(239, 5), NONE);
+        x.undo();
+        x.undo();
+        x.undo();
+        check.due("18: undone, told again in 239", x.market(2, 1, 6), 15);
+        check.due("18: KNOWN in 239", x.rent(2, 15, 239), 6);
+        check.due("18: not KNOWN in 238", x.rent(2, 15, 238), 100);
+    }
+
     private static void breaks() {
         taken("20: the LEASE of breaks()", (x, n) -> x.breaks(n), 0, 4, NONE);
         check.due("20: no LEASES", new RentReview().breaks(0), NONE);
@@ -491,6 +509,44 @@ public final class CallBoundariesTest {
             again.undo();
         }
         check.due("22: the first stay", again.now(3), 2);
+    }
+
+    /** Each of the acts is another, so that each that is kept must be the right one. */
+    private static void undoOfTheTenLatest() {
+        String text = "rate 0;lease 0 20 100 2 0;by market;break 9;lease 0 20 100 2 0;by market;break 8;"
+            + "lease 0 20 100 1 0;by turnover 500;";
+        RentReview x = Check.deskOf(text);
+        x.publish(7, 70);
+        x.market(1, 2, 222);
+        x.pass(1);
+        x.breaks(1);
+        x.market(0, 3, 333);
+        x.pass(2);
+        x.turnover(2, 5, 900);
+        x.publish(9, 90);
+        x.breaks(0);
+        x.market(1, 5, 555);
+        x.turnover(2, 7, 1100);
+        x.publish(11, 110);
+        x.pass(3);
+        check.due("22: 10 of 13 are kept", x.now(4), 10);
+        // What each undo() takes back: NOW, VALUES, END of both, RENT of three.
+        int[][] want = {
+            {3, 3, 9, 8, 333, 555, 450, 550}, {3, 2, 9, 8, 333, 555, 450, 550}, {3, 2, 9, 8, 333, 555, 450, 450},
+            {3, 2, 9, 8, 333, 222, 450, 450}, {3, 2, 20, 8, 333, 222, 450, 450}, {3, 1, 20, 8, 333, 222, 450, 450},
+            {3, 1, 20, 8, 333, 222, 100, 100}, {1, 1, 20, 8, 333, 222, 100, 100}, {1, 1, 20, 8, 100, 222, 100, 100},
+            {1, 1, 20, 20, 100, 222, 100, 100}};
+        for (int i = 0; i < want.length; i++) {
+            check.due("22: undo() " + i, x.undo(), 9 - i);
+            int[] got = {x.now(0), x.now(3), x.lease(0, 6), x.lease(1, 6), x.rent(0, 6, 239), x.rent(1, 10, 239),
+                x.rent(2, 6, 239), x.rent(2, 8, 239)};
+            for (int what = 0; what < got.length; what++) {
+                check.due("22: behind undo() " + i + ", thing " + what, got[what], want[i][what]);
+            }
+        }
+        check.due("22: the first 3 are not kept", x.undo(), NONE);
+        check.due("22: NOW", x.now(0), 1);
+        check.due("22: VALUES", x.now(3), 1);
     }
 
     private static void undoOfEach() {

@@ -48,6 +48,8 @@ public final class MonthBoundariesTest {
         spreadOfTheMost();
         spreadBelowEnd();
         spreadAsKnownInIt();
+        spreadOfSteps();
+        spreadOfWhatEachCallTells();
         aheadBelowEnd();
         check.finish();
     }
@@ -761,6 +763,47 @@ public final class MonthBoundariesTest {
         RentReview early = at(2, "rate 0;lease 2 5 100 1 0;by market;");
         early.market(0, 1, 200);
         check.due(sentence + ": KNOWN at START", early.spread(0, 2), 180);
+    }
+
+    private static void spreadOfSteps() {
+        RentReview x = Check.deskOf("rate 0;lease 0 4 1000 1 0;by step 999;lease 0 4 10 1 0;by step 500;overall 0 999;");
+        // 1000, 1999, 3996, 7988: 14983 by 4; then 11238 by 3, 7492 by 2.
+        int[] want = {3745, 3746, 3746, 3746};
+        int[] ahead = {2745, 4492, 4242, 0};
+        for (int month = 0; month < 4; month++) {
+            check.due("SPREAD of steps, of " + month, x.spread(0, month), want[month]);
+            check.due("SPREADS less DUE of steps, of " + month, x.ahead(0, month), ahead[month]);
+        }
+        // 10, 15, 22, 33: 80 by 4.
+        check.due("SPREAD of steps within 'overall'", x.spread(1, 3), 20);
+    }
+
+    /** Each is cut anew from the NOW of then on, not ahead of it; undone it is as it was. */
+    private static void spreadOfWhatEachCallTells() {
+        String text = "rate 0;index 2 100 0;lease 2 6 100 2 0;by index 0;lease 2 6 100 2 0;by market;"
+            + "lease 2 6 100 2 0;by turnover 500;";
+        RentReview x = at(4, text);
+        for (int turn = 0; turn < 2; turn++) {
+            check.due("publish()", x.publish(4, 200), 2);
+            check.due("market()", x.market(1, 1, 200), 4);
+            check.due("turnover()", x.turnover(2, 2, 400) && x.turnover(2, 3, 400), true);
+            for (int lease = 0; lease < 3; lease++) {
+                // 600 by 6; in 4: 1000 less 200, by 4.
+                check.due("SPREAD of 3, told in 4", x.spread(lease, 3), 100);
+                check.due("SPREAD of 4, told in 4", x.spread(lease, 4), 200);
+                check.due("SPREAD of 7, told in 4", x.spread(lease, 7), 200);
+            }
+            for (int acts = 0; acts < 4; acts++) {
+                x.undo();
+            }
+            for (int lease = 0; lease < 3; lease++) {
+                check.due("SPREAD of 4, undone", x.spread(lease, 4), 100);
+                check.due("SPREAD of 7, undone", x.spread(lease, 7), 100);
+            }
+        }
+        RentReview ofText = Check.deskOf(text.replace("rate 0;", "rate 0;index 4 200 4;"));
+        check.due("SPREAD of 3, KNOWN in 4 by the TEXT", ofText.spread(0, 3), 100);
+        check.due("SPREAD of 4, KNOWN in 4 by the TEXT", ofText.spread(0, 4), 200);
     }
 
     private static void aheadBelowEnd() {

@@ -11,6 +11,7 @@ public final class TextBoundariesTest {
     public static void main(String[] args) {
         blanks();
         words();
+        eachLetterOfAWord();
         numbers();
         theSign();
         bytesAbove127();
@@ -40,6 +41,7 @@ public final class TextBoundariesTest {
         textEmptiesTheTape();
         allStays();
         newText();
+        nothingOfAnOlderText();
         faultOfTheLatest();
         check.finish();
     }
@@ -121,6 +123,29 @@ public final class TextBoundariesTest {
         refused(goesOn, "rate 12a4;", 5, 1);
         refused(goesOn, "rate a1;", 5, 1);
         refused(goesOn, RATE + "lease 0 9 1 1 0lease", 21, 1);
+    }
+
+    /** One letter of a WORD changed, left out or put behind it, and it is another. */
+    private static void eachLetterOfAWord() {
+        String sentence = "WORDS, letter by letter";
+        String whole = "rate 0;index 1 2 3;lease 0 9 5 6 0;collar 1 2;overall 3 4;upward;break 5;by ";
+        String[] texts = {whole + "index 8;", whole + "market;", whole + "turnover 8;", whole + "step 8;"};
+        for (String text : texts) {
+            taken(sentence, text, 1);
+            for (int at = 0; at < text.length(); at++) {
+                if (!Character.isLetter(text.charAt(at))) {
+                    continue;
+                }
+                int first = at;
+                while (first > 0 && Character.isLetter(text.charAt(first - 1))) {
+                    first--;
+                }
+                char other = text.charAt(at) == 'z' ? 'a' : (char) (text.charAt(at) + 1);
+                refused(sentence, text.substring(0, at) + other + text.substring(at + 1), first, 1);
+                refused(sentence, text.substring(0, at) + "x" + text.substring(at), first, 1);
+                refused(sentence, text.substring(0, at) + text.substring(at + 1), first, 1);
+            }
+        }
     }
 
     private static void numbers() {
@@ -685,6 +710,38 @@ public final class TextBoundariesTest {
         check.due("a TEXT without LEASES: spread()", x.spread(0, 4), Check.REFUSED);
         check.due("a TEXT without LEASES: would()", x.would(0, 0, 1), NONE);
         check.due("a TEXT without LEASES: publish()", x.publish(0, 1), 1);
+    }
+
+    /** Not of the TEXT ahead of it, not of the one ahead of that, not of one with a FAULT. */
+    private static void nothingOfAnOlderText() {
+        String full = "rate 9;index 5 50 0;lease 1 9 100 3 9;by step 99;collar 1 2;overall 3 4;upward;break 8;";
+        String plain = "rate 0;lease 1 9 100 3 0;by market;";
+        String bare = "rate 0;lease 1 9 100 3 0;";
+        String[][] runs = {{full, plain}, {full, bare, plain}, {full, full, plain}, {full, full, full, plain},
+            {bare, full + "%", plain}, {full, full + "upward;", full + "break", plain}, {full, full, bare, bare, plain}};
+        for (String[] texts : runs) {
+            RentReview x = new RentReview();
+            for (String text : texts) {
+                Check.tell(x, text);
+                x.publish(200, 5);
+                x.breaks(0);
+                x.market(0, 1, 99999);
+                x.market(0, 2, 99999);
+            }
+            check.due("a new TEXT: no 'collar', no 'overall' of an older one", x.rent(0, 4, 0), 99999);
+            check.due("a new TEXT: no break of an older one", Check.lease(x, 0, 6), 10);
+            check.due("a new TEXT: none FREE of an older one", x.billed(0, 1), 100);
+            check.due("a new TEXT: no VALUE of an older one", x.now(3), 1);
+            check.due("a new TEXT: no 'overall' of an older one", x.review(0, 1, 0, 3), NONE);
+            x.undo();
+            check.due("a new TEXT: no market of an older one", x.market(0, 2, 3), 7);
+            check.due("a new TEXT: no 'upward' of an older one", x.rent(0, 7, 0), 3);
+            Check.tell(x, bare);
+            Check.tell(x, bare);
+            check.due("a new TEXT: no 'by' of an older one", Check.lease(x, 0, 5), 0);
+            check.due("a new TEXT: no REVIEWS of an older one", Check.lease(x, 0, 7), 0);
+            check.due("a new TEXT: no break of an older one", x.breaks(0), NONE);
+        }
     }
 
     private static void faultOfTheLatest() {
