@@ -256,6 +256,10 @@ public final class CallBoundariesTest {
         check.due("16: a VALUE that is between", x.would(1, 20, 300), 200);
         check.due("16: a VALUE that matters not", x.would(1, 239, 300), 133);
         check.due("16: as KNOWN without it", x.rent(1, 15, 15), 133);
+        String late = "rate 0;index 0 100 0;index 9 300 7;lease 0 20 100 4 0;by index 0;";
+        // In 6 the VALUE of 9 is not KNOWN, in 7 it is.
+        check.due("16: as KNOWN NOW", at(6, late).would(0, 239, 5), 99);
+        check.due("16: as KNOWN NOW", at(7, late).would(0, 239, 5), 188);
     }
 
     private static RentReview withForty(String text, int month) {

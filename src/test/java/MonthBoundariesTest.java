@@ -419,6 +419,14 @@ public final class MonthBoundariesTest {
         }
         x.turnover(1, 0, 999999);
         check.due(sentence + ": SHARE 0", x.review(1, 1, 0, 1), 100);
+        RentReview down = Check.deskOf("rate 0;lease 0 9 100 1 0;by turnover 500;");
+        down.turnover(0, 0, 1000);
+        down.turnover(0, 1, 400);
+        down.turnover(0, 2, 100);
+        check.due(sentence + ": 500", down.review(0, 1, 0, 1), 500);
+        check.due(sentence + ", not the RENT of then", down.review(0, 2, 0, 1), 200);
+        check.due(sentence + ": RENT goes down", down.review(0, 2, 0, 2), 200);
+        check.due(sentence + ": 50", down.review(0, 3, 0, 1), 100);
         RentReview most = Check.deskOf("rate 0;lease 0 120 1 60 0;by turnover 999;");
         for (int month = 0; month < 60; month++) {
             most.turnover(0, month, 999999);
@@ -465,6 +473,9 @@ public final class MonthBoundariesTest {
         x.market(0, 1, 1100);
         x.market(0, 2, 1211);
         check.due("'collar' of the RENT of then", x.review(0, 2, 0, 2), 1210);
+        x.undo();
+        x.market(0, 2, 989);
+        check.due("'collar' of the RENT of then, its FLOOR", x.review(0, 2, 0, 2), 990);
         check.due("'collar' has no least", x.review(0, 2, 0, 3), NONE);
         check.due("'collar' has no most", x.review(0, 2, 0, 4), NONE);
     }
@@ -782,23 +793,22 @@ public final class MonthBoundariesTest {
     private static void spreadOfWhatEachCallTells() {
         String text = "rate 0;index 2 100 0;lease 2 6 100 2 0;by index 0;lease 2 6 100 2 0;by market;"
             + "lease 2 6 100 2 0;by turnover 500;";
-        RentReview x = at(4, text);
-        for (int turn = 0; turn < 2; turn++) {
-            check.due("publish()", x.publish(4, 200), 2);
-            check.due("market()", x.market(1, 1, 200), 4);
-            check.due("turnover()", x.turnover(2, 2, 400) && x.turnover(2, 3, 400), true);
-            for (int lease = 0; lease < 3; lease++) {
+        for (int lease = 0; lease < 3; lease++) {
+            RentReview x = at(4, text);
+            for (int turn = 0; turn < 2; turn++) {
+                boolean done = lease == 0 ? x.publish(4, 200) == 2 : lease == 1 ? x.market(1, 1, 200) == 4
+                    : x.turnover(2, 2, 400) && x.turnover(2, 3, 400);
+                check.due("told of lease " + lease, done, true);
                 // 600 by 6; in 4: 1000 less 200, by 4.
-                check.due("SPREAD of 3, told in 4", x.spread(lease, 3), 100);
-                check.due("SPREAD of 4, told in 4", x.spread(lease, 4), 200);
-                check.due("SPREAD of 7, told in 4", x.spread(lease, 7), 200);
-            }
-            for (int acts = 0; acts < 4; acts++) {
+                check.due("SPREAD of 3, told in 4, of lease " + lease, x.spread(lease, 3), 100);
+                check.due("SPREAD of 4, told in 4, of lease " + lease, x.spread(lease, 4), 200);
+                check.due("SPREAD of 7, told in 4, of lease " + lease, x.spread(lease, 7), 200);
                 x.undo();
-            }
-            for (int lease = 0; lease < 3; lease++) {
-                check.due("SPREAD of 4, undone", x.spread(lease, 4), 100);
-                check.due("SPREAD of 7, undone", x.spread(lease, 7), 100);
+                check.due("SPREAD of 4, undone, of lease " + lease, x.spread(lease, 4), 100);
+                check.due("SPREAD of 7, undone, of lease " + lease, x.spread(lease, 7), 100);
+                if (lease == 2) {
+                    x.undo();
+                }
             }
         }
         RentReview ofText = Check.deskOf(text.replace("rate 0;", "rate 0;index 4 200 4;"));
@@ -826,5 +836,13 @@ public final class MonthBoundariesTest {
         check.due("a break in the last MONTH ahead of it", last.spread(0, 7), -76);
         check.due("a break in the last MONTH ahead of it", last.ahead(0, 7), 0);
         check.due("a break in the last MONTH ahead of it", last.ahead(0, 10), 0);
+        RentReview late = Check.deskOf("rate 0;lease 2 9 100 2 0;by market;break 8;");
+        late.breaks(0);
+        goTo(late, 9);
+        late.market(0, 2, 150);
+        // 600 were spread; DUE of 6 and 7 is 150 each as KNOWN from 9 on.
+        check.due("ahead() as KNOWN behind END, ahead of the market", late.ahead(0, 8), 0);
+        check.due("ahead() as KNOWN behind END", late.ahead(0, 9), -100);
+        check.due("ahead() as KNOWN behind END", late.ahead(0, 10), -100);
     }
 }
